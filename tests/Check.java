@@ -75,7 +75,7 @@ final class Check {
     }
   }
 
-  /** All that can be asked without changing anything; the image is not told by this. */
+  /** All that can be asked without changing anything, but the image and the SORTS of ROWS. */
   static String all(TakesAPage x) {
     StringBuilder told = new StringBuilder();
     for (int what = 0; what < 5; what++) {
@@ -92,7 +92,6 @@ final class Check {
     }
     for (int d = 0; d < 8; d++) {
       told.append("|s").append(x.fee(d)).append(' ').append(x.toss(d));
-      // An element put again as it is tells of what SORT the ROW is only by its bits, so ask for fit.
       for (int i = 0; i < 101; i++) {
         long element = element(x, d, i);
         if (element <= Long.MIN_VALUE + 2) {

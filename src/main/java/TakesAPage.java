@@ -635,7 +635,7 @@ public final class TakesAPage {
     return pages;
   }
 
-  /** RUN by a ROW of READINGS: all by one reader, if he is told, and without those of one left out. */
+  /** RUN by a ROW of READINGS: as if all were one reader's, if he is told; one may be left out. */
   private int sumInMind(Shelf readings, Reader all, int leftOut) {
     beginMind();
     int sum = 0;
