@@ -45,6 +45,9 @@ public final class ImageTest {
     Check.due("restored", x.restore(), 0);
     Check.due("no books", x.count(0), 0);
     Check.due("no readers", x.count(1), 0);
+    Check.due("no reader 0", x.reader(0, 0), -1);
+    Check.due("nor of a book", x.book(0, 0), -1);
+    Check.due("nothing in or out", x.count(3) + x.count(4), 0);
     Check.due("day", x.count(2), 0);
     Check.due("shelves stay: the reader", x.fee(3), 4);
     Check.due("shelves stay: the row", Check.element(x, 5, 1), 800);

@@ -41,6 +41,10 @@ public final class ReadingsTest {
     }
     worth(CHAIN, 3, 6, 4 + 6);
     worth(CHAIN, 3, 9, 4 + 9);
+    worth(CHAIN, 3, 4, 4 + 4);
+    worth(CHAIN + "o00;", 3, 4, 1);
+    worth("b1;", 3, 9, 1 + 9);
+    worth("b8;", 3, 9, 8 + 9);
     worth(CHAIN + "o00;", 3, 6, 1);
     worth(CHAIN + "o00;", 3, 7, 1 + 7);
     worth(CHAIN + "o02;", 3, 6, 3);
@@ -74,6 +78,8 @@ public final class ReadingsTest {
       takes("b1;", kind, 0, 0);
     }
     takes(CHAIN, 3, 5, 1);
+    takes("b1;", 3, 9, 0);
+    takes("b8;", 3, 8, 0);
     takes(CHAIN + "o01;", 3, 5, 3);
     takes(CHAIN + "o01;o03;", 3, 5, 2);
     takes(CHAIN + "o00;", 3, 2, 2);
@@ -138,5 +144,10 @@ public final class ReadingsTest {
     Check.due("no reader", x.brings(2), -1);
     Check.due("reader -1", x.brings(-1), -1);
     Check.due("reader -4", x.brings(-4), -1);
+    x = Check.made("b1;b2;b3;b4;r00;r40;x00;x01;x12;x03;x13;");
+    Check.due("of four books", x.reader(0, 2), 3);
+    Check.due("of four books, fast", x.reader(1, 2), 4);
+    Check.due("brings to four books", x.brings(0), 3);
+    Check.due("some stay out", x.count(4), 4);
   }
 }

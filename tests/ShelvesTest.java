@@ -151,6 +151,10 @@ public final class ShelvesTest {
     x.keep(3, 1, 0, 0);
     Check.due("from a reader", x.copy(3, 0, 0, 0, 1), -12);
     Check.due("to a reader", x.copy(0, 0, 3, 0, 1), -12);
+    Check.row(x, 3, 1, 5);
+    x.keep(3, 1, 0, 0);
+    Check.due("from a reader where a row was", x.copy(3, 0, 0, 0, 0), -12);
+    Check.due("to a reader where a row was", x.copy(0, 0, 3, 0, 0), -12);
     Check.due("from nothing", x.copy(4, 0, 0, 0, 1), -11);
     Check.due("to nothing", x.copy(0, 0, 4, 0, 1), -11);
     Check.due("nothing goes ahead of a reader", x.copy(3, 0, 4, 0, 1), -11);

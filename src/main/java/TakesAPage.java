@@ -1194,11 +1194,13 @@ public final class TakesAPage {
       return value;
     }
 
+    // Books that have not come have no pages, so what is counted may go over all of them.
+
     int takesBackFrom(int reader) {
       int back = 0;
-      for (int book = 0; book < bookCount; book++) {
-        int held = books[book].heldBy(reader);
-        books[book].takesBack(held);
+      for (Book book : books) {
+        int held = book.heldBy(reader);
+        book.takesBack(held);
         back += Integer.bitCount(held);
       }
       return back;
@@ -1206,24 +1208,24 @@ public final class TakesAPage {
 
     int pagesHeldBy(int reader) {
       int held = 0;
-      for (int book = 0; book < bookCount; book++) {
-        held += Integer.bitCount(books[book].heldBy(reader));
+      for (Book book : books) {
+        held += Integer.bitCount(book.heldBy(reader));
       }
       return held;
     }
 
     int pagesIn() {
       int pages = 0;
-      for (int book = 0; book < bookCount; book++) {
-        pages += Integer.bitCount(books[book].in);
+      for (Book book : books) {
+        pages += Integer.bitCount(book.in);
       }
       return pages;
     }
 
     int pagesInAll() {
       int pages = 0;
-      for (int book = 0; book < bookCount; book++) {
-        pages += books[book].pages;
+      for (Book book : books) {
+        pages += book.pages;
       }
       return pages;
     }
