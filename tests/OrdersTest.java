@@ -3,6 +3,7 @@ public final class OrdersTest {
   public static void main(String[] args) {
     runs();
     orders();
+    lastOrder();
     spoiling();
     lasting();
     laws();
@@ -51,6 +52,14 @@ public final class OrdersTest {
     Check.due("no shelf", x.most(0, -1, 0), -1);
     Check.due("what 2", x.most(0, 1, 2), -1);
     Check.due("what -1", x.most(0, 1, -1), -1);
+  }
+
+  /** Of 720 orders just the last one, by places, is the best (found by search, told by Model too). */
+  private static void lastOrder() {
+    TakesAPage x = Check.made("b8;n010;n021;n030;n050;n065;n071;r02;r38;r65;r37;r77;r74;");
+    Check.row(x, 1, 0, 0, 1, 2, 3, 4, 5);
+    Check.due("the last order", x.most(0, 1, 0), 68);
+    Check.due("its digits", x.most(0, 1, 1), 12345);
   }
 
   private static void spoiling() {
