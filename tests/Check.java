@@ -15,6 +15,10 @@ final class Check {
     }
   }
 
+  static int wrong() {
+    return wrong;
+  }
+
   static void same(String what, String got, String want) {
     asked++;
     if (!got.equals(want)) {
@@ -82,8 +86,9 @@ final class Check {
       told.append(x.count(what)).append(' ');
     }
     for (int book = 0; book < 4; book++) {
-      told.append("|b").append(x.book(book, 0)).append(' ').append(x.book(book, 2));
-      for (int page = 0; page < 8; page++) {
+      int pages = x.book(book, 0);
+      told.append("|b").append(pages).append(' ').append(x.book(book, 2));
+      for (int page = 0; page < pages; page++) {
         told.append(' ').append(x.page(book, page, 1)).append(' ').append(x.page(book, page, 2));
       }
     }

@@ -1,3 +1,4 @@
+import java.io.IOException;
 import java.util.ArrayList;
 import java.util.List;
 
@@ -9,12 +10,51 @@ public final class RefusalsTest {
 
   private static final List<Call> CALLS = new ArrayList<>();
 
-  public static void main(String[] args) {
+  public static void main(String[] args) throws IOException {
     gather();
-    for (int k = 0; k < CALLS.size(); k++) {
-      refuse(k);
+    Sentence.says("A refused call changes nothing.", () -> {
+      for (int k = 0; k < CALLS.size(); k++) {
+        refuse(k);
+      }
+    });
+    Sentence.says("A refused call changes nothing.", RefusalsTest::fullTownStays);
+    Sentence.says("A refused call changes nothing.", RefusalsTest::withoutAnImage);
+    Sentence.end("RefusalsTest");
+  }
+
+  private static TakesAPage full() {
+    TakesAPage x = Check.made("b8;b1;b2;b3;r00;r11;r22;r33;r44;r55;n070;x50;x01;o21;");
+    x.keep(3, 1, 6, 6);
+    return x;
+  }
+
+  /** No room: neither the statements of a text nor a READER from a SHELF. */
+  private static void fullTownStays() {
+    String[] texts = {"x00;b1;", "o30;r00;", "n032;r77;x00;", "b1;", "r00;x"};
+    int[] faults = {-2004, -2004, -2005, -2000, -1005};
+    for (int k = 0; k < texts.length; k++) {
+      TakesAPage one = full();
+      TakesAPage other = full();
+      Check.text(other, 4, texts[k]);
+      Check.text(one, 4, texts[k]);
+      Check.due("town " + texts[k], one.town(4), faults[k]);
+      Check.due("comes", one.comes(3), -2);
+      Check.due("restore", one.restore(), -3);
+      Check.same("behind " + texts[k], Check.all(one), Check.all(other));
     }
-    Check.end("RefusalsTest");
+  }
+
+  private static void withoutAnImage() {
+    TakesAPage x = Check.made("b2;r00;x00;");
+    Check.due("restore", x.restore(), -3);
+    Check.due("DAY", x.count(2), 1);
+    Check.due("PAGES", x.book(0, 2), 2);
+    Check.due("still none", x.restore(), -3);
+    Check.due("image", x.image(), 1);
+    Check.due("town", Check.town(x, "x00;b9;"), -2004);
+    Check.due("read", x.read(0, 1), -1);
+    Check.due("restore", x.restore(), 1);
+    Check.due("PAGES", x.book(0, 2), 2);
   }
 
   private static TakesAPage setUp() {
@@ -55,6 +95,21 @@ public final class RefusalsTest {
     CALLS.add(x -> x.town(2));
     CALLS.add(x -> x.town(5));
     CALLS.add(x -> x.town(6));
+    int[] notAsTold = {2, 3, 4, 5, 6, 7};
+    for (int d : notAsTold) {
+      CALLS.add(x -> x.run(d, 0));
+      CALLS.add(x -> x.most(0, d, 1));
+      CALLS.add(x -> x.spoils(0, d, 1));
+      CALLS.add(x -> x.gaps(0, d, 1));
+      CALLS.add(x -> x.law(d, 2, 2));
+      CALLS.add(x -> x.without(1, d));
+    }
+    CALLS.add(x -> x.law(1, 8, 0));
+    CALLS.add(x -> x.law(1, 0, 10));
+    CALLS.add(x -> (int) Math.max(-9, Check.element(x, 8, 0)));
+    CALLS.add(x -> (int) Math.max(-9, Check.element(x, 4, 0)));
+    CALLS.add(x -> (int) Math.max(-9, Check.element(x, 1, 2)));
+    CALLS.add(x -> x.copies(0, 0));
     CALLS.add(x -> x.judge(4));
     CALLS.add(x -> x.put(4, 0, 1));
     CALLS.add(x -> x.put(1, 2, 1));

