@@ -1,9 +1,28 @@
 /** What the tests share: counting wrong answers, loading shelves, telling all of a state. */
 final class Check {
+  /** Far above what any test needs: a call that doesn't end fails its test, too. */
+  private static final int MOST_SECONDS = 300;
+
   private static int wrong = 0;
   private static int asked = 0;
 
+  static {
+    Thread watch = new Thread(Check::failLate);
+    watch.setDaemon(true);
+    watch.start();
+  }
+
   private Check() {}
+
+  private static void failLate() {
+    try {
+      Thread.sleep(MOST_SECONDS * 1000L);
+      System.out.println("no end after " + MOST_SECONDS + " seconds");
+      Runtime.getRuntime().halt(1);
+    } catch (InterruptedException e) {
+      // Nobody waits for this thread.
+    }
+  }
 
   static void due(String call, long got, long want) {
     asked++;
@@ -71,7 +90,9 @@ final class Check {
   /** The element, or Long.MIN_VALUE plus 1 (IllegalArgumentException) or 2 (IllegalStateException). */
   static long element(TakesAPage x, int d, int i) {
     try {
-      return x.element(d, i);
+      long element = x.element(d, i);
+      // No element is greater than an int, so what is told of exceptions can't be an answer.
+      return element == (int) element ? element : Long.MAX_VALUE;
     } catch (IllegalArgumentException e) {
       return Long.MIN_VALUE + 1;
     } catch (IllegalStateException e) {

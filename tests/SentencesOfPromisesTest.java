@@ -353,7 +353,8 @@ public final class SentencesOfPromisesTest {
       Check.due("brought again", x.brings(1), 1);
       Check.due("IN again", x.price(1, 0, 0), 1 + 9);
     });
-    Sentence.says("where numbers that may be below 0 are answered (told at the call), 1000000000 less", () -> {
+    Sentence.says("where numbers that may be below 0 are answered (told at the call), "
+        + "1000000000 less", () -> {
       TakesAPage x = two();
       Check.due("turns", x.turns(0, 2, 0), -1000000001);
       Check.due("price, no such", x.price(0, 0, 3), -1000000001);

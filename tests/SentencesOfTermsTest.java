@@ -184,7 +184,8 @@ public final class SentencesOfTermsTest {
   }
 
   private static void worthsUnderOthers() {
-    Sentence.says("OWN as a LAST, and FIGURE more in all, if PAGE (FIGURE modulo PAGES) is understood", () -> {
+    Sentence.says("OWN as a LAST, and FIGURE more in all, "
+        + "if PAGE (FIGURE modulo PAGES) is understood", () -> {
       worth(FLAT, "30", 8);
       worth(FLAT, "37", 15);
       worth(FLAT, "38", 16);
