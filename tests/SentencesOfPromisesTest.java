@@ -1,4 +1,8 @@
 import java.io.IOException;
+import java.nio.file.Files;
+import java.nio.file.Path;
+import java.util.regex.Matcher;
+import java.util.regex.Pattern;
 
 /** Promises 1 to 28: under each its bounds, and each of its refusals; the 512th call. */
 public final class SentencesOfPromisesTest {
@@ -22,6 +26,7 @@ public final class SentencesOfPromisesTest {
     years();
     judge();
     imageAndCount();
+    headings();
     Sentence.end("SentencesOfPromisesTest");
   }
 
@@ -450,6 +455,32 @@ public final class SentencesOfPromisesTest {
       int[] wantFull = {4, 6, 0, 32, 0};
       for (int what = 0; what < 5; what++) {
         Check.due("full count " + what, full.count(what), wantFull[what]);
+      }
+    });
+  }
+
+  private static void headings() throws IOException {
+    headed("towns", "town", "book", "page", "reader");
+    headed("readings", "understands", "worth", "takes", "read", "brings");
+    headed("told readings, orders", "run", "most", "spoils", "lasts", "law", "without");
+    headed("drawers, copies, gaps", "has", "together", "copies", "gaps");
+    headed("turns, prices, years", "turns", "price", "howMany", "seeded", "judge");
+    headed("the image, what is told", "image", "restore", "count");
+    headed("shelves", "keep", "row", "put", "element", "copy", "comes", "fee", "toss");
+  }
+
+  /** The heading that stands last ahead of each of these calls. */
+  private static void headed(String heading, String... calls) throws IOException {
+    String source = Files.readString(Path.of("src/main/java/TakesAPage.java"));
+    String names = "`" + String.join("`, `", calls) + "`";
+    Sentence.says("Ahead of the calls " + names + " the interface says: ---- " + heading + ".", () -> {
+      for (String call : calls) {
+        Matcher m = Pattern.compile("\n  public (int|long) " + call + "\\(").matcher(source);
+        Check.due(call + " is there", m.find() ? 1 : 0, 1);
+        int at = source.lastIndexOf("// ---- ", m.start());
+        Check.due(call + " has a heading", at >= 0 ? 1 : 0, 1);
+        int end = source.indexOf('\n', at);
+        Check.same("ahead of " + call, source.substring(at, end), "// ---- " + heading);
       }
     });
   }
